@@ -35,6 +35,7 @@ public final class BarberJars {
     private final Strand strand;
     private final Town town;
     private final int[] places;
+    private final int[] shares;
     private long traced;
 
     public BarberJars() {
@@ -50,6 +51,7 @@ public final class BarberJars {
         strand = new Strand();
         town = new Town();
         places = new int[THOUGHTS];
+        shares = new int[MOST_CLUES * MOST_PEOPLE];
     }
 
     // ---- the town
@@ -253,19 +255,15 @@ public final class BarberJars {
             return BAD;
         }
         strand.grow(town, times.present, p, n);
-        int best = NONE;
-        for (int changed = 0; changed < 1 << n; changed++) {
-            int much = Integer.bitCount(changed);
-            if ((best == NONE || much < best) && strand.isMostly(thought, changed)) {
-                best = much;
-            }
-        }
-        return best;
+        return strand.fewestDays(thought);
     }
 
     public int wig(int set) {
         if (!within(set, 0, (1 << THOUGHTS) - 1)) {
             return BAD;
+        }
+        for (int p = 0; p < town.people; p++) {
+            shares[p] = times.present.thoughtsIn(p);
         }
         int best = NONE;
         int fewest = MOST_PEOPLE + 1;
@@ -338,6 +336,7 @@ public final class BarberJars {
         if (!within(what, 0, 3)) {
             return BAD;
         }
+        shareOutHeard();
         int all = (1 << town.people) - 1;
         int much = 0;
         int first = NONE;
@@ -459,7 +458,7 @@ public final class BarberJars {
     private static int mostOf(int[] counts) {
         int best = NONE;
         int most = 0;
-        for (int t = 0; t < THOUGHTS && t < counts.length; t++) {
+        for (int t = 0; t < counts.length; t++) {
             if (counts[t] > most) {
                 most = counts[t];
                 best = t;
@@ -501,11 +500,12 @@ public final class BarberJars {
         return people;
     }
 
+    /** The thoughts of a set of people, if the shares hold those of each. */
     private int thoughtsOf(int people) {
         int thoughts = 0;
         for (int p = 0; p < town.people; p++) {
             if (has(people, p)) {
-                thoughts |= times.present.thoughtsIn(p);
+                thoughts |= shares[p];
             }
         }
         return thoughts;
@@ -567,12 +567,21 @@ public final class BarberJars {
         return mostOf(places);
     }
 
+    /** What each has of each heard thought is the same for all sets, so it is told once. */
+    private void shareOutHeard() {
+        for (int i = 0; i < clues.heardSize; i++) {
+            for (int p = 0; p < town.people; p++) {
+                shares[i * MOST_PEOPLE + p] = times.present.layersOf(p, clues.heardThoughts[i]);
+            }
+        }
+    }
+
     private boolean allHeardIsSo(int people) {
         for (int i = 0; i < clues.heardSize; i++) {
             int sum = 0;
             for (int p = 0; p < town.people; p++) {
                 if (has(people, p)) {
-                    sum += times.present.layersOf(p, clues.heardThoughts[i]);
+                    sum += shares[i * MOST_PEOPLE + p];
                 }
             }
             if (sum != clues.heardLayers[i]) {
@@ -690,27 +699,35 @@ public final class BarberJars {
 
         /** Stands at the token behind the item, or, if it answers false, at the one that can't be there. */
         private boolean tellItem() {
-            if (sort != LETTER) {
+            int letter = value;
+            if (sort != LETTER || !mayBegin(letter)) {
                 return false;
             }
-            switch (value) {
+            advance();
+            switch (letter) {
                 case 'p':
-                    return tellOne();
+                    return tellOne(draft.people);
                 case 'm':
                     return tellLongest();
-                case 'j':
+                default:
                     return tellChair();
+            }
+        }
+
+        private boolean mayBegin(int letter) {
+            switch (letter) {
+                case 'p':
+                    return draft.people < MOST_PEOPLE;
+                case 'm':
+                    return !longestTold;
+                case 'j':
+                    return !chairTold;
                 default:
                     return false;
             }
         }
 
-        private boolean tellOne() {
-            int p = draft.people;
-            if (p >= MOST_PEOPLE) {
-                return false;
-            }
-            advance();
+        private boolean tellOne(int p) {
             if (!isNumber(0, THOUGHTS - 1)) {
                 return false;
             }
@@ -728,29 +745,21 @@ public final class BarberJars {
         }
 
         private boolean tellLongest() {
-            if (longestTold) {
-                return false;
-            }
-            longestTold = true;
-            advance();
             if (!isNumber(1, MOST_LAYERS)) {
                 return false;
             }
             draft.longest = value;
+            longestTold = true;
             advance();
             return true;
         }
 
         private boolean tellChair() {
-            if (chairTold) {
-                return false;
-            }
-            chairTold = true;
-            advance();
             if (!isNumber(0, JARS - 1)) {
                 return false;
             }
             draft.chair = value;
+            chairTold = true;
             advance();
             return true;
         }
@@ -800,11 +809,11 @@ public final class BarberJars {
         }
 
         private static boolean isSmallLetter(int c) {
-            return within(c, 'a', 'z');
+            return 'a' <= c && c <= 'z';
         }
 
         private static boolean isDigit(int c) {
-            return within(c, '0', '9');
+            return '0' <= c && c <= '9';
         }
     }
 
@@ -1003,6 +1012,7 @@ public final class BarberJars {
         private static final int NEVER = 1000;
 
         private final int[] counts = new int[THOUGHTS];
+        private final int[] coming = new int[THOUGHTS];
         private final int[] thoughts = new int[MOST_LAYERS + MOST_EVENINGS];
         private int[] fewest = new int[MOST_LAYERS + 1];
         private int[] later = new int[MOST_LAYERS + 1];
@@ -1066,20 +1076,47 @@ public final class BarberJars {
             return best < NEVER ? best : NONE;
         }
 
-        /** Whether the hair of the last day has more of a thought than of any other, if it is thought on some days. */
-        boolean isMostly(int thought, int changedDays) {
-            Arrays.fill(counts, 0);
-            int left = Math.min(wholeSize, longest);
-            for (int i = wholeSize - left; i < wholeSize; i++) {
-                boolean changed = i >= hairSize && has(changedDays, i - hairSize);
-                counts[changed ? thought : thoughts[i]]++;
-            }
-            for (int t = 0; t < THOUGHTS; t++) {
-                if (t != thought && counts[t] >= counts[thought]) {
-                    return false;
+        /** On how few of the days a thought must be thought to be most of the hair that is left on the last. */
+        int fewestDays(int thought) {
+            countWhatIsLeft();
+            for (int days = 0; days <= wholeSize - hairSize; days++) {
+                if (suffices(thought, days)) {
+                    return days;
                 }
             }
-            return true;
+            return NONE;
+        }
+
+        private void countWhatIsLeft() {
+            Arrays.fill(counts, 0);
+            Arrays.fill(coming, 0);
+            for (int i = wholeSize - Math.min(wholeSize, longest); i < wholeSize; i++) {
+                counts[thoughts[i]]++;
+                if (i >= hairSize) {
+                    coming[thoughts[i]]++;
+                }
+            }
+        }
+
+        /**
+         * Which days of another thought are given up is free, so it is enough to look how many each thought must
+         * give up to have fewer layers, and to give up any others for the days that are left over.
+         */
+        private boolean suffices(int thought, int days) {
+            int reached = counts[thought] + days;
+            int due = 0;
+            int open = 0;
+            for (int t = 0; t < THOUGHTS; t++) {
+                if (t != thought) {
+                    int over = Math.max(0, counts[t] - reached + 1);
+                    if (over > coming[t]) {
+                        return false;
+                    }
+                    due += over;
+                    open += coming[t];
+                }
+            }
+            return due <= days && days <= open;
         }
     }
 }
