@@ -1,40 +1,5 @@
 /** Each promise of the document by hand: ordinary inputs, the edges it names, wrong inputs. */
-public final class PromiseTest {
-    private static final int BAD = -1, STATE = -2, FULL = -3, NONE = -9;
-    private static int wrong = 0;
-    private static int asked = 0;
-
-    private static void due(String what, long got, long want) {
-        asked++;
-        if (got != want) {
-            wrong++;
-            System.out.println(what + " answered " + got + ", due is " + want);
-        }
-    }
-
-    private static BarberJars told(String text) {
-        BarberJars x = new BarberJars();
-        typed(x, text);
-        int answer = x.shop();
-        if (answer < 0) {
-            due("shop of " + text, answer, 0);
-        }
-        return x;
-    }
-
-    private static void typed(BarberJars x, String text) {
-        for (int i = 0; i < text.length(); i++) {
-            x.type(text.charAt(i));
-        }
-    }
-
-    private static void hairIs(String what, BarberJars x, int p, int... layers) {
-        due(what + ": size", x.one(p, 2), layers.length);
-        for (int k = 0; k < 12; k++) {
-            due(what + ": layer " + k, x.layer(p, k), k < layers.length ? layers[k] : NONE);
-        }
-    }
-
+public final class PromiseTest extends Check {
     private static void fault(String text, int place) {
         BarberJars x = told("p1 2;");
         typed(x, text);
@@ -66,10 +31,7 @@ public final class PromiseTest {
         marks();
         images();
         counts();
-        System.out.println(wrong == 0 ? asked + " answers are as promised" : wrong + " answers are not as promised");
-        if (wrong != 0) {
-            System.exit(1);
-        }
+        end();
     }
 
     private static void newObject() {
