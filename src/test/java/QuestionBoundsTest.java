@@ -13,11 +13,14 @@ public final class QuestionBoundsTest extends Check {
         planAndTheLongest();
         planAndHisMind();
         planAndTheDay();
+        planOfTheFifth();
         planBad();
         leastByTable();
         leastMustBeMore();
         leastAndTheLongest();
         leastAndHisMind();
+        leastOfTheFifth();
+        leastAskedBefore();
         leastBad();
         wig();
         oddsByTable();
@@ -253,6 +256,17 @@ public final class QuestionBoundsTest extends Check {
         due("two are enough for it", y.plan(0, 3, 2, 0), 1);
     }
 
+    private static void planOfTheFifth() {
+        sentence("PLAN of the last of 5 PEOPLE, with 12 layers, for 20 days");
+        String row = "123412341234";
+        BarberJars x = withHair(row, row, row, row, row);
+        due("twelve may be left: nothing is cut", x.plan(4, 20, 12, 0), 0);
+        due("eleven: 0s are his secret, the first comes at once", x.plan(4, 20, 11, 0), NONE);
+        due("eleven evenings go, with one cut", x.plan(4, 11, 11, 0), 1);
+        due("twelve 0s", x.plan(4, 20, 11, 1), 12);
+        due("one 0", x.plan(4, 20, 1, 1), 2);
+    }
+
     private static void planBad() {
         sentence("Promise 17: BAD");
         BarberJars x = told("p1 1;p2 2;");
@@ -351,6 +365,26 @@ public final class QuestionBoundsTest extends Check {
             due("only the last day counts, n " + n, y.least(0, (1 + n) % 3 + 1, n), 0);
             due("only the last day counts, n " + n, y.least(0, (2 + n) % 3 + 1, n), 1);
         }
+    }
+
+    private static void leastOfTheFifth() {
+        sentence("LEAST of the last of 5 PEOPLE, with 12 layers");
+        String row = "111111112222";
+        BarberJars x = withHair(row, row, row, row, row);
+        due("2 by eight days: 2 2 2 2, 0s", x.least(4, 2, 8), 3);
+        due("0 by eight days", x.least(4, 0, 8), 0);
+        due("1 by eight days: all were lost", x.least(4, 1, 8), 5);
+        due("9 by a day", x.least(4, 9, 1), NONE);
+    }
+
+    private static void leastAskedBefore() {
+        sentence("LEAST: an answer is of now, whatever was asked before");
+        BarberJars x = told("p0 1 1 1 2 2 2;");
+        due("9 for two of 1 1 1", x.least(0, 9, 3), 2);
+        x.days(3);
+        due("1 1 1 stay: 9 9 9 is a tie", x.least(0, 9, 3), NONE);
+        x.undo();
+        due("9 for two of 1 1 1", x.least(0, 9, 3), 2);
     }
 
     private static void leastBad() {

@@ -40,6 +40,8 @@ public final class RefusalTest extends Check {
                 outside(row, towns.get(i), whole);
                 asked(row, towns.get(i), whole);
             }
+            sentence("(Nothing is changed): a question ahead of another in " + names[i]);
+            inTurn(towns.get(i));
         }
         refusedInAFullTown();
         refusedOnTheLastDay();
@@ -186,6 +188,26 @@ public final class RefusalTest extends Check {
             due(call + " is allowed, but " + got, got == BAD || got == STATE || got == FULL ? 1 : 0, 0);
             unchanged(call, made, whole, y -> answer(row, y, arguments), got);
             unchanged(call + " twice", made, whole, y -> answer(row, y, arguments) + answer(row, y, arguments), 2 * got);
+        }
+    }
+
+    /** Each question behind each other one answers as it does alone. */
+    private static void inTurn(Supplier<BarberJars> made) {
+        List<Call> calls = new ArrayList<>();
+        List<String> names = new ArrayList<>();
+        for (Row row : QUESTIONS) {
+            for (int[] arguments : edges(row, made.get())) {
+                calls.add(x -> answer(row, x, arguments));
+                names.add(row.name() + Arrays.toString(arguments));
+            }
+        }
+        for (int second = 0; second < calls.size(); second++) {
+            long alone = calls.get(second).on(made.get());
+            for (int first = 0; first < calls.size(); first++) {
+                BarberJars x = made.get();
+                calls.get(first).on(x);
+                due(names.get(first) + ", " + names.get(second), calls.get(second).on(x), alone);
+            }
         }
     }
 

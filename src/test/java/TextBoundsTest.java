@@ -432,10 +432,13 @@ public final class TextBoundsTest extends Check {
             due("nothing seen, heard to forget", x.forget(), 0);
             due("the trace is not among it", x.trace(), 10101);
         }
-        BarberJars x = items(1, "p7 8 9;");
-        due("no mind", x.one(0, 3), NONE);
-        hairIs("no hair", x, 0);
+        BarberJars x = items(2, "p7 8 9;p6 5 4;");
+        for (int p = 0; p <= 1; p++) {
+            due("no mind", x.one(p, 3), NONE);
+            hairIs("no hair", x, p);
+        }
         x.days(1);
         hairIs("the week begins anew", x, 0, 8);
+        hairIs("the week begins anew, whatever his mind was", x, 1, 5);
     }
 }
