@@ -39,8 +39,8 @@ public final class BarberJars {
     private long traced;
 
     public BarberJars() {
-        text = new Text();
-        reader = new Reader(text);
+        reader = new Reader();
+        text = reader.text;
         times = new Times();
         images = new Times[IMAGES];
         for (int i = 0; i < IMAGES; i++) {
@@ -666,18 +666,14 @@ public final class BarberJars {
         private static final int MOST_NUMBER = 99;
         private static final int FAULT_BASE = -10;
 
+        final Text text = new Text();
         final Town draft = new Town();
-        private final Text text;
         private int place;
         private int start;
         private int sort;
         private int value;
         private boolean longestTold;
         private boolean chairTold;
-
-        Reader(Text typed) {
-            text = typed;
-        }
 
         /** How many items the text has, or -10 less the fault. */
         int tellAll() {

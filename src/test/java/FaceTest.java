@@ -86,6 +86,9 @@ public final class FaceTest {
                 fields += fixed ? 0 : 1;
             }
             check(fields <= 20, c + " has at most twenty fields");
+            for (Constructor<?> made : c.getDeclaredConstructors()) {
+                check(made.getParameterCount() == 0, made + " is handed nothing of the object that makes it");
+            }
             for (Method m : c.getDeclaredMethods()) {
                 check(m.getParameterCount() <= 7, m + " has at most seven parameters");
                 check(Modifier.isPublic(m.getModifiers()) || !names.contains(m.getName()), m + " bears a name of the face");
